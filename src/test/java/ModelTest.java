@@ -5,12 +5,19 @@ final class ModelTest {
     private static final String[] NAMES = {"up", "wait", "left", "price", "heard", "sun"};
     private static final String[] PIECES = {"go", "rush", "harm", "or", "and", "not", "up", "wait", "sun", "(", ")",
         ";", "+", "-", "*", "<", "=", "0", "30", "9999", "12345", "00001", "x", "A", "\t", "goo", "\u00ff", "\0"};
+    /** Rules by which most days come to something. */
+    private static final String[] TAME_GO = {"0", "1", "2 - wait", "wait < 20", "(left < 20) * 5", "sun - 4", "up - 30",
+        "heard * 2 - price", "heard - 1", "3 - price", "(up = 7) - 1", "0-price", "up < 20 and wait < 9 or sun = 5"};
+    private static final String[] TAME_RUSH = {"0", "0", "1", "wait - 10", "wait < 5", "up - 5", "left < 10", "heard", "price - 2",
+        "sun - 3", "-up", "4 * (wait = 6)"};
+    private static final String[] TAME_HARM = {"1", "up + 1", "wait", "3 * (up < 4)", "sun + price + heard + left + 2"};
     private static final int[] ODD = {-1, -2, Integer.MIN_VALUE, Integer.MAX_VALUE, 1 << 30, 41, 121, 1000000};
 
     private static long seed = 1;
     private static LastCar x;
     private static Model y;
     private static String at;
+    private static final int[] sheetSorts = new int[4];
 
     public static void main(String[] args) {
         for (int run = 0; run < RUNS; run++) {
@@ -45,13 +52,13 @@ final class ModelTest {
 
     private static void begin(int run, boolean big) {
         at = "run " + run + " at first: ";
-        if (!big) set(5, 0, 1 + any(50));
+        if (!big) set(5, 0, any(5) == 0 ? 1 + any(50) : 20 + any(30));
         for (int k = any(7); k > 0; k--) people(big);
         for (int k = any(4); k > 0; k--) car();
         for (int k = any(6); k > 0; k--) way();
-        for (int k = any(3); k > 0; k--) text(160);
-        int text = x.count(4) - 1;
-        due("force(" + text + ")", x.force(text), y.force(text));
+        for (int k = 0; k < 4; k++) if (any(3) != 0) sheet(k, any(3), any(41));
+        for (int k = any(3); k > 0; k--) text(source());
+        if (any(3) != 0) text(tame());
     }
 
     private static void oneCall(boolean big) {
@@ -59,11 +66,11 @@ final class ModelTest {
             case 0: people(big); break;
             case 1: if (any(2) == 0) car(); else way(); break;
             case 2: setAny(big); break;
-            case 3: shutOrImage(); break;
-            case 4: text(160 - x.count(5)); break;
+            case 3: if (any(3) == 0) shutOrImage(); break;
+            case 4: if (any(3) == 0) text(any(3) == 0 ? source() : tame()); break;
             case 5: feed(); break;
             case 6: case 7: host(); break;
-            case 8: if (any(big ? 30 : 3) == 0) search(); break;
+            case 8: if (any(big ? 20 : 2) == 0) search(); break;
             case 9: small(); break;
             default: days(); break;
         }
@@ -71,15 +78,15 @@ final class ModelTest {
 
     private static void people(boolean big) {
         int up = about(0, big ? 400 : 40);
-        int slow = any(3) == 0 ? 60 : about(1, 61);
+        int slow = any(3) == 0 ? 60 : any(3) == 0 ? about(1, 61) : 1 + any(20);
         int rest = any(30) == 0 ? about(0, 50000) : 1000 * any(any(3) == 0 ? 42 : 6) + 10 * slow + any(10);
         due("people(" + up + ", " + rest + ")", x.people(up, rest), y.people(up, rest));
     }
 
     private static void car() {
         int room = about(1, any(2) == 0 ? 60 : 8);
-        int every = about(1, 30);
-        int first = any(3) == 0 ? about(0, 119) : any(20);
+        int every = any(4) == 0 ? about(1, 30) : 1 + any(6);
+        int first = any(5) == 0 ? about(0, 119) : any(15);
         due("car(" + room + ", " + every + ", " + first + ")", x.car(room, every, first), y.car(room, every, first));
     }
 
@@ -91,7 +98,7 @@ final class ModelTest {
     }
 
     private static void setAny(boolean big) {
-        int what = about(0, 5);
+        int what = any(3) == 0 ? about(0, 5) : any(5);
         int[] most = {big ? 400 : 40, 40, 60, 9, 9, big ? 120 : 50};
         int of = about(0, what == 4 ? 119 : 5);
         set(what, of, about(0, what >= 0 && what <= 5 ? most[what] : 9));
@@ -103,11 +110,11 @@ final class ModelTest {
 
     private static void shutOrImage() {
         int from = about(-1, 60);
-        int to = any(4) == 0 ? about(-1, 119) : from == Integer.MAX_VALUE ? from : from + any(10);
-        switch (any(6)) {
+        int to = any(9) == 0 ? about(-1, 119) : from == Integer.MAX_VALUE ? from : from + any(10);
+        switch (any(8)) {
             case 0: due("image()", x.image(), y.image()); break;
             case 1: due("back()", x.back(), y.back()); break;
-            case 2: due("shut(-1, " + to + ")", x.shut(-1, to), y.shut(-1, to)); break;
+            case 2: case 3: case 4: due("shut(-1, " + to + ")", x.shut(-1, to), y.shut(-1, to)); break;
             default: due("shut(" + from + ", " + to + ")", x.shut(from, to), y.shut(from, to)); break;
         }
     }
@@ -117,7 +124,7 @@ final class ModelTest {
     private static String one(int depth) {
         int die = any(depth > 0 ? 8 : 5);
         if (die < 3) return NAMES[any(6)];
-        if (die < 5) return "" + any(any(2) == 0 ? 10 : any(2) == 0 ? 100 : 10000);
+        if (die < 5) return "" + any(any(3) != 0 ? 10 : any(2) == 0 ? 100 : 10000);
         if (die == 5) return "-" + blank() + one(depth - 1);
         return "(" + blank() + e(depth - 1) + blank() + ")";
     }
@@ -165,17 +172,20 @@ final class ModelTest {
         }
     }
 
-    private static void text(int room) {
-        String text = source();
-        for (int tries = 0; tries < 20 && text.length() > room; tries++) text = source();
-        text = text.substring(0, Math.min(text.length(), room));
+    private static String tame() {
+        return "go " + TAME_GO[any(TAME_GO.length)] + ";rush " + TAME_RUSH[any(TAME_RUSH.length)] + ";harm "
+            + TAME_HARM[any(TAME_HARM.length)] + ";";
+    }
+
+    private static void text(String source) {
+        String text = source.substring(0, Math.min(source.length(), 160 - x.count(5)));
         for (int i = 0; i < text.length(); i += 8) {
             int n = Math.min(8, text.length() - i);
             long bytes = Due.bytes(text, i, n);
             due("feed(" + n + ", " + bytes + ")", x.feed(n, bytes), y.feed(n, bytes));
         }
         int got = x.text();
-        due("text() of [" + text + "]", got, y.text());
+        due("text() behind feeding [" + text + "]", got, y.text());
         if (got > 0) due("force(" + got + ")", x.force(got), y.force(got));
     }
 
@@ -222,7 +232,7 @@ final class ModelTest {
 
     private static void search() {
         int way = any(30) == 0 ? about(0, 8) : any(Math.max(1, x.count(2)));
-        int most = any(10) == 0 ? about(0, 2400) : any(x.count(7) + 2);
+        int most = any(10) == 0 ? about(0, 2400) : Math.max(0, x.left(way, -1) - any(20));
         int sheet = about(0, 3);
         int what = about(0, 1);
         switch (any(4)) {
@@ -239,16 +249,26 @@ final class ModelTest {
         int i = about(0, 39);
         int n = about(0, 8);
         int v = any(8) == 0 ? about(-70000, 70000) : about(0, any(2) == 0 ? 9 : 99);
-        int sort = about(-1, 2);
+        int sort = any(2) == 0 && sheet >= 0 && sheet < 4 ? sheetSorts[sheet] : about(-1, 2);
         switch (any(7)) {
-            case 0: due("sheet(" + sheet + ", " + sort + ", " + i + ")", x.sheet(sheet, sort, i), y.sheet(sheet, sort, i));
-                break;
-            case 1: due("copy(" + sheet + ", " + i + ", " + other + ", " + n + ", " + n + ")",
-                x.copy(sheet, i, other, n, n), y.copy(sheet, i, other, n, n)); break;
-            case 2: due("sorts(" + sheet + ", " + sort + ", " + n + ", " + v + ")", x.sorts(sheet, sort, n, v),
-                y.sorts(sheet, sort, n, v)); break;
+            case 0: if (any(3) == 0) sheet(sheet, sort, i); break;
+            case 1: due("copy(" + sheet + ", " + i / 4 + ", " + other + ", " + n + ", " + n + ")",
+                x.copy(sheet, i / 4, other, n, n), y.copy(sheet, i / 4, other, n, n)); break;
+            case 2: due("sorts(" + sheet + ", " + sort + ", " + i / 4 + ", " + n + ")", x.sorts(sheet, sort, i / 4, n),
+                y.sorts(sheet, sort, i / 4, n)); break;
             case 3: due("judge(" + sheet + ")", x.judge(sheet), y.judge(sheet)); break;
-            default: due("cell(" + sheet + ", " + i + ", " + v + ")", x.cell(sheet, i, v), y.cell(sheet, i, v)); break;
+            default: cell(sheet, i, v); break;
         }
+    }
+
+    private static void sheet(int sheet, int sort, int n) {
+        int got = x.sheet(sheet, sort, n);
+        due("sheet(" + sheet + ", " + sort + ", " + n + ")", got, y.sheet(sheet, sort, n));
+        if (got == 1) sheetSorts[sheet] = sort;
+        for (int i = any(3) == 0 ? 40 : 0; i < 20; i++) cell(sheet, i, any(any(4) == 0 ? 1200 : 30));
+    }
+
+    private static void cell(int sheet, int i, int v) {
+        due("cell(" + sheet + ", " + i + ", " + v + ")", x.cell(sheet, i, v), y.cell(sheet, i, v));
     }
 }
