@@ -832,8 +832,8 @@ public final class LastCar {
             for (int sort = 0; sort < hill.sorts; sort++) rank[sort] = way.rankOf(sort, hill.far[sort]);
         }
 
+        /** Told over what a WAY has called, so that this stands behind the sheet's end. */
         void hearSheet(Sheet sheet) {
-            Arrays.fill(calls, 0);
             System.arraycopy(sheet.cells, 0, calls, 0, sheet.size);
         }
 

@@ -18,6 +18,8 @@ final class DayTest {
         harm();
         harmBounds();
         noOne();
+        sixSorts();
+        daysAhead();
         refusals();
         Due.end("DayTest");
     }
@@ -261,6 +263,51 @@ final class DayTest {
         Due.be("down", x.down(0, -1, 89), 0);
         Due.be("behind", x.behind(0, 0), 0);
         Due.be("behind", x.behind(0, 2400), -1);
+    }
+
+    private static void sixSorts() {
+        LastCar x = new LastCar();
+        for (int sort = 0; sort < 6; sort++) x.people(400, 1000 * sort + 10);
+        for (int car = 0; car < 4; car++) x.car(60, 1, 0);
+        for (int way = 0; way < 8; way++) x.way(way % 6, way, way);
+        Due.rule(x, "400", "0", "99");
+        for (int way = 0; way < 8; way++) {
+            Due.be("left of all", x.left(way, -1), 0);
+            Due.be("left of the last", x.left(way, 5), 0);
+            Due.be("rode in all", x.rode(way, -1), 2400);
+            Due.be("rode the last", x.rode(way, 3), 600);
+            Due.be("down", x.down(way, -1, 8), 9 * 240);
+            Due.be("behind", x.behind(way, 2400), 9);
+            Due.be("behind", x.behind(way, 2160), 8);
+            Due.be("waits", x.waits(way, 0), 2400 - 6 * 240);
+            Due.be("waits", x.waits(way, 1), 5);
+        }
+        x.set(5, 0, 8);
+        Due.be("harm", x.harm(0), 99 * (2400 - 8 * 240));
+    }
+
+    /** Nothing of a day ahead stands in the next one. */
+    private static void daysAhead() {
+        LastCar x = new LastCar();
+        x.people(10, 2010);
+        x.way(0, 0, 0);
+        Due.rule(x, "400", "0", "1");
+        Due.be("waits(0, 0)", x.waits(0, 0), 10);
+        Due.be("waits(0, 1)", x.waits(0, 1), 2);
+        x.set(1, 0, 5);
+        Due.be("waits(0, 0) farther", x.waits(0, 0), 10);
+        Due.be("waits(0, 1) farther", x.waits(0, 1), 5);
+        x.set(5, 0, 5);
+        Due.be("waits(0, 0), nobody", x.waits(0, 0), 0);
+        Due.be("waits(0, 1), nobody", x.waits(0, 1), 0);
+        x.set(5, 0, 90);
+        x.car(3, 30, 6);
+        Due.be("rode", x.rode(0, 0), 9);
+        Due.be("rode", x.rode(0, 0), 9);
+        x.shut(10, 119);
+        Due.be("rode till a storm", x.rode(0, 0), 3);
+        Due.be("down", x.down(0, 0, 89), 3);
+        Due.be("left", x.left(0, 0), 7);
     }
 
     private static void refusals() {

@@ -49,6 +49,11 @@ final class LatestTest {
         Due.be("latest(0, 10) at END 3", x.latest(0, 10), 2);
         x.set(5, 0, 120);
         Due.be("latest(0, 0) at END 120", x.latest(0, 0), 115);
+        x = bells();
+        x.shut(0, 88);
+        x.set(0, 0, 100);
+        Due.be("60 have room; 41 come by SLOW, 19 must hear", x.latest(0, 40), 80);
+        Due.be("40 are left whatever is called", x.latest(0, 39), -1);
     }
 
     private static void latestRefusals() {
@@ -185,6 +190,8 @@ final class LatestTest {
             Due.be("4 0 6", judged(x, sort, 4, 0, 6), 5);
             Due.be("1 1 1 2", judged(x, sort, 1, 1, 1, 2), 9);
             Due.be("99", judged(x, sort, 99), 0);
+            Due.be("all 0 again", x.sheet(1, sort, 1), 1);
+            Due.be("0", x.judge(1), 10);
         }
         x.set(5, 0, 2);
         Due.be("4 0 6 at END 2", judged(x, 2, 4, 0, 6), 8);

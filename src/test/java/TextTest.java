@@ -13,6 +13,7 @@ final class TextTest {
         faults();
         faultsOfDepth();
         faultsOfEnds();
+        oldTapes();
         values();
         valuesOfNames();
         force();
@@ -83,7 +84,7 @@ final class TextTest {
     private static void faults() {
         String[] faults = {"|", " |", "|rush 1;", "go |;", "go 1 |2;", "go 1 |rush 0;", "go 1;|harm 1;", "go 1; rush 1; |go 1;",
             "go |12345;", "go |00001;", "go 1+|12345", "go |upp;", "go |u;", "go |goo;", "|goup;", "go up |up;", "go |go;", "|A",
-            "go |Up;", "go|\t1;", "go 1 + |+ 1;", "go 1 * |;", "go |*1;", "go 1 < 2 |< 3;", "go 1 = 2 |= 3;", "go 1 < 2 |= 3;",
+            "go |Up;", "go |xp;", "go |uq;", "|ho 1;", "go 1;|lush 1;", "go 1 |xr 1;", "go|\t1;", "go 1 + |+ 1;", "go 1 * |;", "go |*1;", "go 1 < 2 |< 3;", "go 1 = 2 |= 3;", "go 1 < 2 |= 3;",
             "go 1 + |not 1;", "go 1 < |not 1;", "go - |not 1;", "go -|;", "go not |;", "go (|);", "go (1|;", "go 1|);",
             "go (1 |2);", "go (1)|(2);", "go 1 and |or 1;", "go |and 1;", "go 1 |not 1;", "go (1 < 2) < 3 |< 4;",
             "go 1;rush 1;harm 1;|;", "go 1;rush 1;harm 1; |0", "go 1;rush 1;harm 1;|go 1;", "go 1;rush 1;harm 1; |?",
@@ -119,6 +120,24 @@ final class TextTest {
         Due.be("[" + text + "]", Due.text(new LastCar(), text.toString()), 1);
     }
 
+    /** What stood on THE TAPE ahead of this text, or came of it, is not read again. */
+    private static void oldTapes() {
+        LastCar x = new LastCar();
+        Due.be("goo", Due.text(x, "goo12345"), -100);
+        Due.be("go", Due.text(x, "go"), -102);
+        Due.be("go 123", Due.text(x, "go 123"), -106);
+        String full = "go 1 or 1 and not 1 < 2;rush 1;harm ";
+        StringBuilder text = new StringBuilder(full);
+        while (text.length() < 158) text.append("1+");
+        String most = text.append("19").substring(0, 160);
+        for (int k = 0; k < 5; k++) Due.be(most, Due.text(x, most), -260);
+        for (int k = 0; k < 5; k++) Due.be("letters to the end", Due.text(x, most.substring(0, 158) + "up"), -260);
+        x.people(1, 20);
+        x.way(0, 0, 0);
+        Due.rule(x, "-99", "0", most.substring(full.length(), 120) + "0");
+        Due.be("that many ones", x.harm(0), (120 - full.length()) / 2);
+    }
+
     /** What an E is worth, 0 to 99, by the harm of one who is left. */
     private static long worth(String e) {
         LastCar x = new LastCar();
@@ -133,9 +152,9 @@ final class TextTest {
             "not 0", "not 7", "not not 7", "not 1=2", "not 0 = 0", "1 or 0", "0 or 0", "7 or 7", "7 and 8", "7 and 0", "1 or 1 and 0",
             "(1 or 1) and 0", "0 and 0 or 1", "1+1<1+2", "5<1+9*9", "(1<2)+(2<3)", "not 0 and 0", "not (0 and 0)", "1 < 2 and 3 < 2",
             "(9999*4+6345)*(9999*4+6345) < 0", "8192*8192*8*8+7", "8192*8192*8*4 < 0", "-(8192*8192*8*4) < 0", "100", "0-1", "9999",
-            "99", "98+1", "(0 or -1) + (0-1 and 1)", "0012"};
+            "99", "98+1", "(0 or -1) + (0-1 and 1)", "0012", "1 and 1", "1 and 0", "0 and 1", "1 or 1", "0 or 1", "not 1"};
         long[] worth = {7, 14, 20, 4, 19, 2, 3, 6, 6, 1, 0, 0, 1, 0, 1, 0, 1, 1, 0, 1, 0, 1, 1, 0, 1, 0, 1, 1, 1, 2, 0, 1, 0,
-            1, 7, 1, 1, 99, 0, 99, 99, 99, 2, 12};
+            1, 7, 1, 1, 99, 0, 99, 99, 99, 2, 12, 1, 0, 0, 1, 1, 0};
         for (int i = 0; i < e.length; i++) Due.be("worth of " + e[i], worth(e[i]), worth[i]);
     }
 
