@@ -36,6 +36,9 @@ final class HostTest {
         Due.be("it holds 500", x.judge(0), -2);
         Due.be("all 0 again", x.sheet(0, 2, 40), 1);
         Due.be("it holds 0", x.judge(0), 0);
+        x.cell(0, 1, 10);
+        Due.be("one comes by it", x.sorts(0, 2, 0, 1), 1);
+        Due.be("of 0", x.count(7), 0);
         int[] sizes = {5, -1, 41, MIN, MAX};
         for (int n : sizes) {
             Due.be("missing", x.sheet(0, -1, n), 1);
