@@ -12,6 +12,7 @@ public final class LastCar {
     private static final int TAPE_BYTES = 160, SHEET_CELLS = 40;
     private static final int ROOM_MOST = 60, EVERY_MOST = 30, NUMBER_MOST = 9;
     private static final int PEOPLE_MOST = 2400, CARS_MORE_MOST = 20, TOLD_MOST = 99, SORTS_BY_SHEET_MOST = 8;
+    private static final int GO_LEAST = -99, GO_MOST = 400, RUSH_MOST = 60, HARM_MOST = 99;
 
     /** What set() names, and between which bounds each of these stands. */
     private static final int UP = 0, FAR = 1, SLOW = 2, HEARS = 3, SUN = 4, END = 5;
@@ -872,7 +873,7 @@ public final class LastCar {
 
         private int goingOf(Hill hill, Text rule, int sort, int minute, int waited) {
             setNames(hill, sort, minute, waited);
-            int more = bounded(rule.value(GO_PART, names), -99, 400);
+            int more = bounded(rule.value(GO_PART, names), GO_LEAST, GO_MOST);
             int slow = Math.max(1, hill.slow[sort]);
             return bounded(up[sort] / slow + more, 0, up[sort]);
         }
@@ -891,7 +892,7 @@ public final class LastCar {
                 int room = cars.roomOf(car, minute);
                 if (room == 0) continue;
                 setNames(hill, 0, minute, waiting);
-                int rush = bounded(rule.value(RUSH_PART, names), 0, ROOM_MOST);
+                int rush = bounded(rule.value(RUSH_PART, names), 0, RUSH_MOST);
                 board(car, Math.min(room - rush, waiting), hill.sorts, minute);
             }
         }
@@ -956,7 +957,7 @@ public final class LastCar {
             names[WAIT_NAME] = waiting;
             for (int sort = 0; sort < hill.sorts; sort++) {
                 names[UP_NAME] = up[sort];
-                sum += (long) bounded(rule.value(HARM_PART, names), 0, TOLD_MOST) * leftOf(hill, sort);
+                sum += (long) bounded(rule.value(HARM_PART, names), 0, HARM_MOST) * leftOf(hill, sort);
             }
             return sum;
         }
