@@ -1,3 +1,5 @@
+import java.util.List;
+
 /** The boundary cases of promises 11 to 25. */
 final class AskEdges extends Edges {
     private static final long[] NO_WAYS = {-1, 3, 8, MIN, MAX};
@@ -349,7 +351,6 @@ final class AskEdges extends Edges {
         x.refused(NOTHING, "judge", 3);
         x.refused(BAD, "judge", 1);
         x.refused(BAD, "judge", 2);
-        x.due(x.ask("left", 0, NONE), "left", 0, NONE);
         for (int sort = 0; sort < 3; sort++) {
             Asked y = fresh();
             row(y, 0, sort, 0, 99);
@@ -404,7 +405,7 @@ final class AskEdges extends Edges {
         x.due(5, "set", 0, 5, 3);
         Asked same = world();
         same.ask("back");
-        java.util.List<Long> ahead = same.seen();
+        List<Long> ahead = same.seen();
         same.due(3, "back");
         same.sameAs(ahead, "back() once more");
         same.due(3, "image");

@@ -299,6 +299,16 @@ final class DayEdges extends Edges {
         x.due(119, "latest", 0, 8);
         x.due(119, "latest", 0, 2400);
         x.due(50, "told", 0, 0, 1);
+        Asked y = fresh();
+        y.ask("people", 10, 605);
+        y.ask("car", 1, 1, 0);
+        y.ask("way", 1, 0, 4);
+        y.rule("heard", "0", "1");
+        y.ask("set", 5, 0, 10);
+        y.due(0, "latest", 0, 0);
+        y.due(1, "latest", 0, 1);
+        y.due(8, "latest", 0, 8);
+        y.due(9, "latest", 0, 9);
     }
 
     private static void more() {
@@ -457,6 +467,11 @@ final class DayEdges extends Edges {
     private static void image() {
         says(TERMS_2, "AN IMAGE keeps UP, FAR, SLOW, HEARS of all SORTS, SUN, END, when it is SHUT, THE RULE");
         Asked x = world();
+        for (int sort = 0; sort < 2; sort++) {
+            for (int what = 0; what < 4; what++) x.ask("set", what, sort, 8);
+        }
+        x.ask("set", 4, 0, 8);
+        x.ask("set", 4, 119, 8);
         x.ask("back");
         int[][] kept = {{0, 0, 40}, {1, 0, 3}, {2, 0, 10}, {3, 0, 5}, {0, 1, 30}, {1, 1, 0}, {2, 1, 20}, {3, 1, 9}, {4, 0, 5}, {4, 6, 9},
             {4, 7, 5}, {4, 119, 5}, {5, 0, 90}};

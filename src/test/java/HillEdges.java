@@ -25,7 +25,7 @@ final class HillEdges extends Edges {
         refusalsInOrder();
         bad();
         state();
-        full_();
+        fullAnswers();
         theHosts();
     }
 
@@ -314,7 +314,7 @@ final class HillEdges extends Edges {
         x.due(6, "back");
     }
 
-    private static void full_() {
+    private static void fullAnswers() {
         says(TERMS_1, "FULL (-4);");
         Asked x = full();
         x.refused(-4, "people", 0, 10);

@@ -155,6 +155,7 @@ final class RuleEdges extends Edges {
         rushed(10, "wait - 55", 5);
         rushed(10, "up + 2", 8);
         rushed(10, "heard + left + price + sun", 3);
+        rushOfSortZero();
         Asked x = hill(30, 600, "10", "wait - 12", "1");
         x.ask("car", 5, 30, 1);
         x.ask("car", 5, 30, 1);
@@ -168,7 +169,24 @@ final class RuleEdges extends Edges {
         x.due(5, "rode", 0, 1);
     }
 
-    /** Of 400, three go before the END and wait there. */
+    /** Of SORT 0 there are 8 up still, and it hears 2; of SORT 1 none, and it hears 4; 22 wait in all as the car goes. */
+    private static void rushOfSortZero() {
+        Asked x = fresh();
+        x.ask("people", 9, 604);
+        x.ask("people", 1, 608);
+        x.ask("way", 1, 0, 5);
+        x.ask("car", 10, 30, 0);
+        x.ask("people", 20, 19);
+        x.ask("set", 5, 0, 1);
+        x.rule("1", "up", "1");
+        x.due(2, "rode", 0, 0);
+        x.rule("1", "heard * 3", "1");
+        x.due(4, "rode", 0, 0);
+        x.rule("1", "wait - 20", "1");
+        x.due(8, "rode", 0, 0);
+    }
+
+    /** Nobody goes at first; then one goes in each MINUTE. */
     private static void harm() {
         says(TERMS_1, "harm: what one of a SORT who is LEFT is worth (0 .. 99, else the bound; up, wait as at the END; left, price, heard, sun 0).");
         String[] harms = {"0", "1", "98", "99", "100", "9999", GREATEST_INT, "-1", "-99", LEAST_INT};

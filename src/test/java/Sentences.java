@@ -2,6 +2,7 @@ import java.io.IOException;
 import java.nio.charset.StandardCharsets;
 import java.nio.file.Files;
 import java.nio.file.Path;
+import java.util.Arrays;
 import java.util.LinkedHashMap;
 import java.util.Map;
 
@@ -49,7 +50,7 @@ final class Sentences {
         boolean[] tried = TRIED.get(place);
         int found = 0;
         for (int i = all.indexOf(words); i >= 0; i = all.indexOf(words, i + 1)) {
-            java.util.Arrays.fill(tried, i, i + words.length(), true);
+            Arrays.fill(tried, i, i + words.length(), true);
             found++;
         }
         Due.be(at + "stands there", found > 0 ? 1 : 0, 1);
