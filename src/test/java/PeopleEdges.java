@@ -266,6 +266,23 @@ final class PeopleEdges extends Edges {
             x.ask("force", text);
             x.due(text, "harm", 0);
         }
+        textBehindFaults();
+    }
+
+    /** A TEXT as long as can be is whole though FAULTS as long as can be stood ahead of it. */
+    private static void textBehindFaults() {
+        StringBuilder ones = new StringBuilder("1");
+        while (ones.length() < 139) ones.append("+1");
+        Asked x = hill(1, 20, "-99", "0", "0");
+        for (int k = 0; k < 3; k++) {
+            x.feed("go 1;rush 0;harm " + ones + "+1+1");
+            x.due(-260, "text");
+        }
+        x.feed("go -99;rush 0;harm " + ones + " ;");
+        x.due(160, "count", 5);
+        x.due(2, "text");
+        x.due(1, "force", 2);
+        x.due(70, "harm", 0);
     }
 
     private static void textFault() {
