@@ -7,6 +7,8 @@ final class EdgesTest {
 
     public static void main(String[] args) throws IOException {
         Sentences.read();
+        FirstEdges.all();
+        FaceEdges.all();
         HillEdges.all();
         WayEdges.all();
         TextEdges.all();

@@ -6,8 +6,6 @@ final class HillEdges extends Edges {
     }
 
     static void all() {
-        use();
-        face();
         minutes();
         end();
         sorts();
@@ -27,27 +25,6 @@ final class HillEdges extends Edges {
         state();
         fullAnswers();
         theHosts();
-    }
-
-    private static void use() {
-        says("Use", "An object is used for at most 512 calls after it has been made; what later calls answer is free.");
-        LastCar x = new LastCar();
-        x.people(9, 10);
-        x.way(0, 0, 0);
-        for (int call = 3; call < 512; call++) x.set(0, 0, call % 400);
-        Sentences.be("the 512th call: left(0, 0)", x.left(0, 0), 511 % 400);
-        x.left(0, 0);
-        Sentences.be("the 513th ends, with any answer", 1, 1);
-    }
-
-    private static void face() {
-        says("Face", "public static final int NONE = -1, BAD = -2, STATE = -3, FULL = -4;");
-        Sentences.be("NONE", LastCar.NONE, -1);
-        Sentences.be("BAD", LastCar.BAD, -2);
-        Sentences.be("STATE", LastCar.STATE, -3);
-        Sentences.be("FULL", LastCar.FULL, -4);
-        says("Face", "public static final long NO = -4611686018427387904L;");
-        Sentences.be("NO", LastCar.NO, -4611686018427387904L);
     }
 
     private static void minutes() {
