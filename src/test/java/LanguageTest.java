@@ -27,6 +27,7 @@ final class LanguageTest {
         face();
         classes();
         methods(bare);
+        made(bare);
         Due.end("LanguageTest");
     }
 
@@ -116,5 +117,21 @@ final class LanguageTest {
             most = Math.max(most, n - i + 1);
         }
         Due.be("the longest method has " + most + " lines", most > 5 && most <= 60 ? 1 : 0, 1);
+    }
+
+    /** Rule 12, and the one room of all calls: only way() makes anything once an object is made. */
+    private static void made(String bare) {
+        int ofFields = 0;
+        int ofFirst = 0;
+        List<String> ofCalls = new ArrayList<>();
+        for (String line : bare.split("\n")) {
+            if (!line.matches(".*\\bnew\\b.*")) continue;
+            if (line.matches(" +(private )?final [\\w\\[\\]]+ \\w+ = new .*")) ofFields++;
+            else if (line.matches(" +for \\(int i = [01]; i < [A-Z]+; i\\+\\+\\) \\w+\\[i\\] = new .*| +(Tape written|Text rule) = new .*")) ofFirst++;
+            else ofCalls.add(line.trim());
+        }
+        Due.be("fields make their rows", ofFields > 0 ? 1 : 0, 1);
+        Due.be("rows of the first rule, the texts and the sheets", ofFirst, 4);
+        Due.be("made in calls: " + ofCalls, ofCalls.equals(List.of("ways[wayCount] = new Way(kind, from, number);")) ? 1 : 0, 1);
     }
 }
